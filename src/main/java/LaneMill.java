@@ -814,11 +814,13 @@ public final class LaneMill {
         }
 
         boolean isAllEnded() {
-            return !MillThread.isAnyRunning(threads, threads.length) && lowestWaiting() == null;
+            return !MillThread.isAnyRunning(threads, threads.length)
+                    && MillThread.lowestOfWaiting(threads, threads.length) == null;
         }
 
         boolean isAllWaiting() {
-            return !MillThread.isAnyRunning(threads, threads.length) && lowestWaiting() != null;
+            return !MillThread.isAnyRunning(threads, threads.length)
+                    && MillThread.lowestOfWaiting(threads, threads.length) != null;
         }
 
         MillThread lowestWaiting() {

@@ -774,6 +774,9 @@ public final class PromisesTest {
         apart.step(4);
         due("v under the mask", registers(apart, 1, 4), "0 14 14 14");
         due("s under the mask", registers(apart, 2, 4), "0 2 2 2");
+        LaneMill other = launched(1, 4, 3, 0, "l 0", "k 1 7", "z 0 4", "v 2 1", "j 4");
+        other.step(4);
+        due("v of a lane at another place", registers(other, 2, 4), "0 14 14 14");
         LaneMill own = launched(1, 4, 3, 0, "l 0", "z 0 4", "k 1 4", "s 2 0 1", "j 4");
         own.step(4);
         due("the own lane", registers(own, 2, 4), "0 1 2 3");
