@@ -1,18 +1,5 @@
-import java.util.NoSuchElementException;
-
 /** Each promise of the document, with ordinary inputs, the edges and wrong inputs. */
-public final class PromisesTest {
-    private static final Class<?> INDEX = IndexOutOfBoundsException.class;
-    private static final Class<?> ARGUMENT = IllegalArgumentException.class;
-    private static final Class<?> STATE = IllegalStateException.class;
-    private static final Class<?> UNSUPPORTED = UnsupportedOperationException.class;
-    private static final Class<?> NO_ELEMENT = NoSuchElementException.class;
-    private static final Class<?> ARITHMETIC = ArithmeticException.class;
-    private static final int LEAST = Integer.MIN_VALUE;
-    private static final int GREATEST = Integer.MAX_VALUE;
-
-    private static int wrong = 0;
-
+public final class PromisesTest extends Checks {
     public static void main(String[] args) {
         newObject();
         kernels();
@@ -60,107 +47,7 @@ public final class PromisesTest {
         serialExceptions();
         figures();
         sameMemoryForEachOrder();
-        System.out.println(wrong == 0 ? "all promises hold" : wrong + " answers are not as due");
-        if (wrong != 0) {
-            System.exit(1);
-        }
-    }
-
-    // ---- helpers
-
-    private static void due(String what, Object got, Object want) {
-        if (!got.equals(want)) {
-            wrong++;
-            System.out.println(new Throwable().getStackTrace()[1].getMethodName() + ": " + what
-                + " answered " + got + ", due is " + want);
-        }
-    }
-
-    private interface Call {
-        Object answer();
-    }
-
-    private static void refuses(String what, Class<?> want, Call call) {
-        Object got;
-        try {
-            got = call.answer();
-        } catch (RuntimeException e) {
-            got = e.getClass();
-        }
-        if (got != want) {
-            wrong++;
-            System.out.println(new Throwable().getStackTrace()[1].getMethodName() + ": " + what
-                + " answered " + got + ", due is " + want);
-        }
-    }
-
-    /**
-     * Adds a kernel whose instructions are told as "k 0 5", numbers that are left out being 0; the
-     * only number of 'j' is its place.
-     */
-    private static int kernel(LaneMill mill, int registers, int shared, String... lines) {
-        int kernel = mill.addKernel(registers, shared);
-        for (String line : lines) {
-            String[] parts = line.split(" ");
-            int[] n = new int[3];
-            for (int i = 1; i < parts.length; i++) {
-                n[parts[0].equals("j") ? 1 : i - 1] = Integer.parseInt(parts[i]);
-            }
-            mill.code(kernel, parts[0].charAt(0), n[0], n[1], n[2]);
-        }
-        return kernel;
-    }
-
-    /** A machine in which one launch of one kernel, the only one, is queued. */
-    private static LaneMill launched(int blocks, int threads, int registers, int shared, String... lines) {
-        LaneMill mill = new LaneMill();
-        mill.launch(0, kernel(mill, registers, shared, lines), blocks, threads, -1);
-        return mill;
-    }
-
-    /** Lets the next instruction be carried out, and tells after how many cycles another one can be. */
-    private static int delay(LaneMill mill) {
-        if (mill.step(1) != 1) {
-            return -1;
-        }
-        int delay = 1;
-        while (mill.reason(0, 0) == 'd' && delay < 100) {
-            mill.step(1);
-            delay++;
-        }
-        return delay;
-    }
-
-    private static String registers(LaneMill mill, int register, int lanes) {
-        StringBuilder text = new StringBuilder();
-        for (int lane = 0; lane < lanes; lane++) {
-            text.append(lane == 0 ? "" : " ").append(mill.register(0, 0, lane, register));
-        }
-        return text.toString();
-    }
-
-    private static String cells(LaneMill mill, int from, int to) {
-        StringBuilder text = new StringBuilder();
-        for (int cell = from; cell <= to; cell++) {
-            text.append(cell == from ? "" : " ").append(mill.peek(cell));
-        }
-        return text.toString();
-    }
-
-    private static String states(LaneMill mill) {
-        StringBuilder text = new StringBuilder();
-        for (int i = 0; i < mill.launches(); i++) {
-            text.append(mill.state(i));
-        }
-        return text.toString();
-    }
-
-    private static String racingCells(LaneMill mill, int launch) {
-        StringBuilder text = new StringBuilder();
-        for (int cell = 0; cell < 64; cell++) {
-            text.append(mill.isRacing(launch, cell) ? "," + cell : "");
-        }
-        return text + "/" + mill.races(launch);
+        end();
     }
 
     // ---- promises 1 to 6
