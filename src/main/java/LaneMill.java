@@ -1489,7 +1489,6 @@ public final class LaneMill {
             }
             if (block.passBarrier(lowest.place)) {
                 figures.passedBarriers++;
-                block.writeEndedGroups(memory);
             } else {
                 fail(block, lowest.number, lowest.place, 'b');
             }

@@ -41,6 +41,10 @@ abstract class Checks {
         Object answer();
     }
 
+    interface GroupCall {
+        Object answer(LaneMill mill, int unit, int group);
+    }
+
     static void refuses(String what, Class<?> want, Call call) {
         Object got = answerOrException(call);
         if (got != want) {

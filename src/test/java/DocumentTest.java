@@ -26,6 +26,11 @@ public final class DocumentTest extends Checks {
         }
         for (Map.Entry<String, String> place : document.entrySet()) {
             due("a test for " + place.getKey(), isTold(sentences, place.getKey(), ""), true);
+            Matcher ranges = Pattern.compile("`\\w+`: [^`]*?(\\d to \\d+|0 or 1|or -1)").matcher(place.getValue());
+            while (ranges.find()) {
+                due("a test for " + place.getKey() + ": " + ranges.group(), isTold(sentences, place.getKey(), ranges.group()),
+                    true);
+            }
             Matcher exceptions = Pattern.compile("Throws `\\w+` if .*?(?= Throws `|$)").matcher(place.getValue());
             while (exceptions.find()) {
                 due("a test of a refused call for " + place.getKey() + ": " + exceptions.group(),

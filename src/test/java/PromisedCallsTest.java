@@ -261,6 +261,16 @@ public final class PromisedCallsTest extends Checks {
         due("no other cell", cells(mill, 0, 63), "1" + " 0".repeat(62) + " 64");
     }
 
+    @Sentence(of = "Promise 6", says = "`cell`: the cell, 0 to 63")
+    static void firstAndLastPeekedCells() {
+        LaneMill mill = new LaneMill();
+        mill.poke(0, 5);
+        mill.poke(63, 6);
+        due("0 and 63", mill.peek(0) + " " + mill.peek(63), "5 6");
+        refuses("-1", INDEX, () -> mill.peek(-1));
+        refuses("64", INDEX, () -> mill.peek(64));
+    }
+
     @Sentence(of = "Promise 6", says = "Returns the value, whatever waits in buffers.")
     static void peekedCells() {
         LaneMill mill = launched(1, 4, 2, 0, "k 0 1", "w 1 0", "j 2");
@@ -587,6 +597,68 @@ public final class PromisedCallsTest extends Checks {
         }
     }
 
+    /** A machine with two groups in each unit, and what a call answers of each of them. */
+    private static void bothUnits(GroupCall call, String answers) {
+        LaneMill mill = launched(2, 5, 2, 1, "n 0", "z 0 4", "w 0 0", "j 3", "k 1 5", "W 0 1", "j 6");
+        mill.step(4);
+        due("groups 0 and 1 of the units 0 and 1", call.answer(mill, 0, 0) + " " + call.answer(mill, 0, 1) + " "
+            + call.answer(mill, 1, 0) + " " + call.answer(mill, 1, 1), answers);
+        for (int bad : new int[] {-1, 2, LEAST, GREATEST}) {
+            refuses("unit " + bad, INDEX, () -> call.answer(mill, bad, 0));
+            refuses("group " + bad, INDEX, () -> call.answer(mill, 1, bad));
+        }
+    }
+
+    @Sentence(of = "Promise 17", says = "`unit`: the unit, 0 or 1")
+    static void unitsOfGroups() {
+        LaneMill mill = launched(3, 5, 1, 0, "j 0");
+        mill.step(1);
+        due("units 0 and 1", mill.groups(0) + " " + mill.groups(1), "4 2");
+        refuses("unit -1", INDEX, () -> mill.groups(-1));
+        refuses("unit 2", INDEX, () -> mill.groups(2));
+    }
+
+    @Sentence(of = "Promise 18", says = "`unit`: the unit, 0 or 1")
+    static void unitsOfThreadAt() {
+        bothUnits(LaneMill::threadAt, "0 4 100 104");
+    }
+
+    @Sentence(of = "Promise 19", says = "`unit`: the unit, 0 or 1")
+    static void unitsOfPlace() {
+        bothUnits(LaneMill::place, "6 0 3 0");
+    }
+
+    @Sentence(of = "Promise 20", says = "`unit`: the unit, 0 or 1")
+    static void unitsOfMask() {
+        bothUnits(LaneMill::mask, "15 1 15 1");
+    }
+
+    @Sentence(of = "Promise 21", says = "`unit`: the unit, 0 or 1")
+    static void unitsOfPlaces() {
+        bothUnits(LaneMill::places, "1 1 1 1");
+    }
+
+    @Sentence(of = "Promise 22", says = "`unit`: the unit, 0 or 1")
+    static void unitsOfReason() {
+        bothUnits(LaneMill::reason, "- - - -");
+    }
+
+    @Sentence(of = "Promise 23", says = "`unit`: the unit, 0 or 1")
+    static void unitsOfRegister() {
+        bothUnits((mill, unit, group) -> mill.register(unit, group, 0, 0), "0 0 1 0");
+        bothUnits((mill, unit, group) -> mill.register(unit, group, 0, 1), "5 0 0 0");
+    }
+
+    @Sentence(of = "Promise 24", says = "`unit`: the unit, 0 or 1")
+    static void unitsOfShared() {
+        bothUnits((mill, unit, group) -> mill.shared(unit, group, 0), "5 5 0 0");
+    }
+
+    @Sentence(of = "Promise 25", says = "`unit`: the unit, 0 or 1")
+    static void unitsOfBuffered() {
+        bothUnits(LaneMill::buffered, "0 0 3 0");
+    }
+
     @Sentence(of = "Promise 18", says = "Returns 1000 times its launch, plus 100 times its block, plus the number of the thread.")
     static void threadsOfTheLastLaunchAndBlock() {
         LaneMill mill = new LaneMill();
@@ -746,6 +818,18 @@ public final class PromisedCallsTest extends Checks {
         }
     }
 
+    @Sentence(of = "Promise 23", says = "`lane`: the lane, 0 to 3")
+    static void lanesOfRegisters() {
+        LaneMill mill = launched(1, 8, 2, 0, "t 1", "j 1");
+        mill.setOrder('a');
+        mill.step(2);
+        for (int lane = 0; lane < 4; lane++) {
+            due("lane " + lane, mill.register(0, 0, lane, 1) + " " + mill.register(0, 1, lane, 1), lane + " " + (lane + 4));
+        }
+        refuses("lane 4", INDEX, () -> mill.register(0, 0, 4, 1));
+        refuses("lane -1", INDEX, () -> mill.register(0, 1, -1, 1));
+    }
+
     @Sentence(of = "Promise 23", says = "Returns a register of a thread in a unit.")
     static void registersOfThreadsThatHaveEnded() {
         LaneMill mill = launched(1, 5, 1, 0, "k 0 7");
@@ -895,6 +979,7 @@ public final class PromisedCallsTest extends Checks {
         mill.launch(0, 0, 1, 1, -1);
         mill.step(2);
         due("a write waits", mill.buffered(0, 0) + " " + mill.serial(1, 1, 1, false, 10), "1 4");
+        due("the cell is as it was", mill.serial(1, 1, 1, false, 9), 4);
         mill.step(1);
         due("it is written", mill.buffered(0, 0) + " " + mill.serial(1, 1, 1, false, 10), "0 9");
     }
@@ -1238,6 +1323,9 @@ public final class PromisedCallsTest extends Checks {
         kernel(mill, 8, 16, "w 0 0", "w 0 0", "R 0 0", "k 0 -1", "r 0 0");
         mill.launch(0, 0, 6, 16, -1);
         mill.launch(1, 1, 6, 8, -1);
+        LaneMill full = launched(1, 4, 1, 0, "f", "f", "f", "w 0 0", "j 4");
+        full.step(4);
+        due("with four writes", full.buffered(0, 0) + " " + full.isSound(), "4 true");
         for (int i = 0; i < 200; i++) {
             mill.step(3);
             due("cycle " + mill.cycle(), mill.isSound(), true);

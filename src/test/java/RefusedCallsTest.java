@@ -385,10 +385,6 @@ public final class RefusedCallsTest extends Checks {
 
     // ---- groups in units
 
-    private interface GroupCall {
-        Object answer(LaneMill mill, int unit, int group);
-    }
-
     /** A call that names a group, where the unit 0 has two groups, and the unit 1 has none. */
     private static void noSuchGroup(String name, GroupCall call) {
         List<Refusal> rows = new ArrayList<>();

@@ -145,6 +145,10 @@ public final class TermsOfKernelsTest extends Checks {
         due("22 and 10", full.given(0) + " " + full.given(1) + " / " + groups(full), "4 2 / 3 3");
         LaneMill over = filled(new int[] {4, 1, 1, 11}, new int[] {3, 1, 1, 11});
         due("22 and 11", over.given(0) + " " + over.given(1) + " / " + groups(over), "4 0 / 2 2");
+        LaneMill once = filled(new int[] {2, 5, 1, 15}, new int[] {4, 1, 1, 9});
+        due("15 of a block of two groups, and 9, but not 18", once.given(1) + " / " + groups(once), "2 / 3 3");
+        LaneMill twice = filled(new int[] {2, 5, 1, 15}, new int[] {4, 1, 1, 8});
+        due("15 of a block of two groups, and 16", twice.given(1) + " / " + groups(twice), "4 / 4 4");
     }
 
     // ---- Kernels

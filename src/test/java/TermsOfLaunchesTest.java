@@ -33,13 +33,15 @@ public final class TermsOfLaunchesTest extends Checks {
         due("one more", groups(five), "2 0");
     }
 
+    private static final String[] SAME_MEMORY = {"n 0", "k 1 10", "* 0 0 1", "t 1", "+ 0 0 1", "W 1 0", "w 0 0", "b", "k 2 8",
+        "- 2 2 1", "R 2 2", "w 0 2"};
+
     @Sentence(of = "Terms", says = "A kernel that runs with nothing beside it, without races, children, and the letters 'a' and "
         + "'x', leaves the same memory for each order of groups.")
     static void ordersLeaveTheSameMemory() {
         String[] results = new String[3];
         for (int i = 0; i < 3; i++) {
-            LaneMill mill = launched(6, 9, 3, 9, "n 0", "k 1 10", "* 0 0 1", "t 1", "+ 0 0 1", "W 1 0", "w 0 0", "b", "k 2 8",
-                "- 2 2 1", "R 2 2", "w 0 2");
+            LaneMill mill = launched(6, 9, 3, 9, SAME_MEMORY);
             mill.setOrder("oya".charAt(i));
             mill.run(500);
             due("done", mill.state(0) + racingCells(mill, 0), "d/0");
@@ -47,6 +49,15 @@ public final class TermsOfLaunchesTest extends Checks {
         }
         due("'y' as 'o'", results[1], results[0]);
         due("'a' as 'o'", results[2], results[0]);
+        LaneMill serial = new LaneMill();
+        due("kernel", kernel(serial, 3, 9, SAME_MEMORY), 0);
+        for (boolean isFalling : new boolean[] {false, true}) {
+            StringBuilder text = new StringBuilder();
+            for (int cell = 0; cell < 64; cell++) {
+                text.append(cell == 0 ? "" : " ").append(serial.serial(0, 6, 9, isFalling, cell));
+            }
+            due("threads one after the other", text.toString(), results[0]);
+        }
         due("cells of the last block", results[0].endsWith(" 58 57 56 55 54 53 52 51 50 0 0 0 0 0"), true);
     }
 
@@ -779,6 +790,19 @@ public final class TermsOfLaunchesTest extends Checks {
     }
 
     @Sentence(of = "A cycle", says = "the first one, if that group has left")
+    static void theFirstOneIfAGroupBetweenOthersHasLeft() {
+        // The block 2 ends in the cycle 13; its group is the second of three in the unit 0.
+        LaneMill mill = launched(6, 1, 2, 0, "n 0", "k 1 2", "= 0 0 1", "z 0 5", "e", "k 0 0", "k 0 0", "j 7");
+        mill.setOrder('a');
+        mill.step(13);
+        due("ahead of it", threads(mill, 0) + " / " + places(mill, 0), "0 200 400 / 6 4 5");
+        mill.step(1);
+        due("it has left", threads(mill, 0) + " / " + places(mill, 0), "0 400 / 6 5");
+        mill.step(1);
+        due("the first one, once more", places(mill, 0), "7 5");
+    }
+
+    @Sentence(of = "A cycle", says = "the first one, if that group has left")
     static void theFirstOneIfThatGroupHasFailed() {
         LaneMill mill = new LaneMill();
         kernel(mill, 1, 0, "k 0 1", "k 0 1", "k 0 1", "j 3");
@@ -935,6 +959,8 @@ public final class TermsOfLaunchesTest extends Checks {
         due("r, barrier, w", isPairRacing(false, 9, "r 3 1", 1, "w 1 0", "b"), false);
         due("w, barrier, w", isPairRacing(false, 0, "w 1 0", 15, "w 1 0", "b"), false);
         due("W, barrier, R", isPairRacing(false, 1, "W 1 0", 9, "R 3 1", "b"), false);
+        due("R, barrier, W", isPairRacing(false, 0, "R 3 1", 15, "W 1 0", "b"), false);
+        due("W, barrier, W", isPairRacing(false, 15, "W 1 0", 0, "W 1 0", "b"), false);
         due("of two blocks", isPairRacing(true, 1, "w 1 0", 2, "r 3 1", "b"), true);
         due("of two blocks, 'r' first", isPairRacing(true, 1, "r 3 1", 2, "w 1 0", "b"), true);
     }

@@ -555,6 +555,7 @@ public final class TermsOfWritesTest extends Checks {
             due(letter + " of four other ones", delayOf(letter, 12, 9, 6, 3), 1);
             due(letter + " of two by two", delayOf(letter, 0, 4, 1, 5), 2);
             due(letter + " of two, and one twice", delayOf(letter, 0, 4, 0, 4), 2);
+            due(letter + " of neighbours", delayOf(letter, 0, 1, 5, 9), 3);
             due(letter + " of three", delayOf(letter, 3, 7, 11, 2), 3);
             due(letter + " of three, and one twice", delayOf(letter, 3, 7, 11, 3), 3);
             due(letter + " of four", delayOf(letter, 3, 15, 11, 7), 4);
