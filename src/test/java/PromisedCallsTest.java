@@ -60,6 +60,24 @@ public final class PromisedCallsTest extends Checks {
         }
     }
 
+    @Sentence(of = "Promise 2", says = "Adds a kernel without instructions.")
+    static void newKernelsHaveNoInstructions() {
+        LaneMill mill = new LaneMill();
+        mill.addKernel(1, 0);
+        mill.addKernel(1, 0);
+        mill.code(0, 'j', 0, 0, 0);
+        mill.launch(0, 1, 1, 1, -1);
+        due("done at once", mill.step(1) + " " + mill.state(0), "0 d");
+        due("the first instruction", mill.addKernel(1, 0) + " " + mill.code(2, 'e', 0, 0, 0), "2 0");
+    }
+
+    @Sentence(of = "Promise 2", says = "Returns the number of the kernel.")
+    static void numbersOfKernels() {
+        LaneMill mill = new LaneMill();
+        due("from 0 to 3", "" + mill.addKernel(1, 0) + mill.addKernel(8, 16) + mill.addKernel(2, 0) + mill.addKernel(4, 1), "0123");
+        due("each its own", mill.fits(0, 4) + " " + mill.fits(1, 4) + " " + mill.fits(2, 8) + " " + mill.fits(3, 8), "4 2 2 2");
+    }
+
     @Sentence(of = "Promise 2", says = "Throws `IllegalStateException` if there are 4 kernels")
     static void addingAFifthKernel() {
         LaneMill mill = new LaneMill();
@@ -80,6 +98,22 @@ public final class PromisedCallsTest extends Checks {
             due("of the kernel 0", mill.code(0, 'e', 0, 0, 0), i);
         }
         due("of the kernel 1", mill.code(1, 'e', 0, 0, 0), 0);
+    }
+
+    @Sentence(of = "Promise 3", says = "Adds an instruction behind those of a kernel.")
+    static void instructionsComeBehindOthers() {
+        LaneMill mill = new LaneMill();
+        mill.addKernel(1, 0);
+        mill.addKernel(1, 0);
+        mill.code(0, 'k', 0, 5, 0);
+        mill.code(1, 'k', 0, 6, 0);
+        mill.code(0, 'w', 0, 0, 0);
+        mill.code(1, 'k', 0, 7, 0);
+        mill.code(1, 'w', 0, 0, 0);
+        mill.launch(0, 0, 1, 1, -1);
+        mill.launch(0, 1, 1, 1, -1);
+        mill.run(9);
+        due("cells", cells(mill, 5, 7), "5 0 7");
     }
 
     private static final String LETTERS = "k+-*<=tnlzjrwRWaxvsbfce";
@@ -249,6 +283,16 @@ public final class PromisedCallsTest extends Checks {
         due("which come later", buffer.peek(0), 0);
     }
 
+    @Sentence(of = "Promise 5", says = "Returns the value before.")
+    static void valuesBefore() {
+        LaneMill mill = new LaneMill();
+        int before = 0;
+        for (int value : new int[] {5, LEAST, GREATEST, 0, -1, -1}) {
+            due("before " + value, mill.poke(63, value), before);
+            before = value;
+        }
+    }
+
     @Sentence(of = "Promise 5", says = "`cell`: the cell, 0 to 63")
     static void pokedCells() {
         LaneMill mill = new LaneMill();
@@ -369,6 +413,35 @@ public final class PromisedCallsTest extends Checks {
         for (int queue : new int[] {-1, 2, LEAST, GREATEST}) {
             refuses("queue " + queue, INDEX, () -> mill.copy(queue, 0, 0, 1, -1));
         }
+    }
+
+    @Sentence(of = "Promise 8", says = "`from`: the first cell that is moved")
+    static void firstCellsOfCopies() {
+        LaneMill mill = new LaneMill();
+        for (int cell : new int[] {0, 61, 62, 63}) {
+            mill.poke(cell, cell + 100);
+        }
+        mill.copy(0, 61, 10, 3, -1);
+        mill.copy(0, 0, 63, 1, -1);
+        mill.step(1);
+        due("the first one first", cells(mill, 10, 12), "161 0 0");
+        mill.run(9);
+        due("up to the last one", cells(mill, 10, 12) + " " + mill.peek(63), "161 162 163 100");
+        refuses("one more", ARGUMENT, () -> mill.copy(0, 62, 10, 3, -1));
+        refuses("one less", ARGUMENT, () -> mill.copy(0, -1, 10, 3, -1));
+    }
+
+    @Sentence(of = "Promise 8", says = "`to`: the first cell to which one is moved")
+    static void firstCellsToWhichCopiesMove() {
+        LaneMill mill = new LaneMill();
+        mill.poke(10, 5);
+        mill.poke(12, 6);
+        mill.copy(0, 10, 61, 3, -1);
+        mill.copy(0, 10, 0, 1, -1);
+        mill.run(9);
+        due("up to the last one", cells(mill, 60, 63) + " / " + cells(mill, 0, 1), "0 5 0 6 / 5 0");
+        refuses("one more", ARGUMENT, () -> mill.copy(0, 10, 62, 3, -1));
+        refuses("one less", ARGUMENT, () -> mill.copy(0, 10, -1, 3, -1));
     }
 
     @Sentence(of = "Promise 8", says = "`cells`: the number of cells, 1 to 64")
@@ -837,6 +910,15 @@ public final class PromisedCallsTest extends Checks {
         due("ended, and not yet begun", mill.reason(0, 0) + " " + mill.register(0, 0, 3, 0) + mill.register(0, 1, 0, 0), "e 70");
     }
 
+    @Sentence(of = "Promise 24", says = "Returns a shared cell of the block of a group.")
+    static void sharedCellsOfTheFirstAndTheLastGroup() {
+        LaneMill mill = launched(2, 16, 2, 16, "t 0", "k 1 7", "n 1", "W 0 1", "j 4");
+        mill.setOrder('a');
+        mill.step(20);
+        due("of the group 3, in both units", mill.shared(0, 3, 15) + " " + mill.shared(1, 3, 15) + " " + mill.shared(1, 0, 0),
+            "0 1 1");
+    }
+
     @Sentence(of = "Promise 24", says = "Throws `IndexOutOfBoundsException` if there is no such unit, no such group, or no such shared "
         + "cell of the kernel")
     static void sharedCellsOfBlocks() {
@@ -939,6 +1021,18 @@ public final class PromisedCallsTest extends Checks {
         }
     }
 
+    @Sentence(of = "Promise 28", says = "Returns whether there was.")
+    static void racesAreRememberedWhenTheLaunchIsOver() {
+        LaneMill mill = launched(1, 2, 1, 0, "w 0 0", "k 0 1");
+        due("not yet", mill.isRacing(0, 0), false);
+        mill.step(1);
+        due("there was", mill.isRacing(0, 0) + " " + mill.isRacing(0, 1), "true false");
+        mill.run(99);
+        mill.launch(0, 0, 1, 1, -1);
+        mill.run(99);
+        due("still", mill.isRacing(0, 0) + " " + mill.isRacing(1, 0), "true false");
+    }
+
     @Sentence(of = "Promise 29", says = "Returns the number of cells with races in a launch: of global cells, and of shared cells, those "
         + "of each block counted by themselves.")
     static void numberOfRaces() {
@@ -1001,6 +1095,15 @@ public final class PromisedCallsTest extends Checks {
         due("falling", falling.toString(), "9 8 5 4 1 0 11 10 7 6 3 2 ");
     }
 
+    @Sentence(of = "Promise 30", says = "`isFalling`: whether blocks and threads come by falling numbers instead")
+    static void serialGoesByFallingNumbers() {
+        LaneMill mill = new LaneMill();
+        kernel(mill, 3, 0, "t 0", "w 2 0", "k 1 1", "n 0", "w 1 0");
+        due("the last thread and block", mill.serial(0, 6, 16, false, 0) + " " + mill.serial(0, 6, 16, false, 1), "15 5");
+        due("the first ones", mill.serial(0, 6, 16, true, 0) + " " + mill.serial(0, 6, 16, true, 1), "0 0");
+        due("one of each", mill.serial(0, 1, 1, true, 0) + " " + mill.serial(0, 1, 1, false, 1), "0 0");
+    }
+
     @Sentence(of = "Promise 30", says = "and then the barrier is looked at as told")
     static void serialLooksAtBarriers() {
         LaneMill mill = new LaneMill();
@@ -1040,7 +1143,7 @@ public final class PromisedCallsTest extends Checks {
     @Sentence(of = "Promise 30", says = "with its threads one after the other")
     static void serialBeginsEachBlockAnew() {
         LaneMill mill = new LaneMill();
-        kernel(mill, 3, 1, "R 1 2", "k 0 9", "a 0 0 1", "t 1", "k 0 5", "W 2 0");
+        kernel(mill, 3, 1, "R 1 2", "k 0 9", "a 0 0 1", "k 1 5", "W 2 1");
         due("shared cells are 0 in each block", mill.serial(0, 6, 1, false, 9), 0);
         due("and kept in a block", mill.serial(0, 6, 16, false, 9), 6 * 15 * 5);
         kernel(mill, 2, 0, "k 1 9", "a 0 1 0", "k 0 3");
@@ -1328,7 +1431,7 @@ public final class PromisedCallsTest extends Checks {
         due("with four writes", full.buffered(0, 0) + " " + full.isSound(), "4 true");
         for (int i = 0; i < 200; i++) {
             mill.step(3);
-            due("cycle " + mill.cycle(), mill.isSound(), true);
+            due("step " + i, mill.isSound(), true);
         }
         due("the launch 0, and those of the kernel 1", states(mill), "d" + "f".repeat(11));
     }

@@ -213,6 +213,60 @@ public final class TermsOfKernelsTest extends Checks {
         }
     }
 
+    @Sentence(of = "Kernels", says = "'+', '-', '*' the register a becomes the sum, the difference, the product of the registers b "
+        + "and c")
+    static void sumsDifferencesAndProducts() {
+        due("7 and 3", reckoned('+', 7, 3) + " " + reckoned('-', 7, 3) + " " + reckoned('*', 7, 3), "10 4 21");
+        due("3 and -7", reckoned('+', 3, -7) + " " + reckoned('-', 3, -7) + " " + reckoned('*', 3, -7), "-4 10 -21");
+        LaneMill mill = launched(1, 1, 8, 0, "k 7 5", "+ 7 7 7", "* 7 7 7", "- 0 7 1", "- 7 7 7", "j 5");
+        mill.step(3);
+        due("a, b and c are the last register", mill.register(0, 0, 0, 7), 100);
+        mill.step(3);
+        due("and then none of it", mill.register(0, 0, 0, 0) + " " + mill.register(0, 0, 0, 7), "100 0");
+    }
+
+    @Sentence(of = "Kernels", says = "'r' the register a becomes the global cell whose number is the register b; 'w' the global cell "
+        + "whose number is the register a becomes the register b")
+    static void readsAndWritesOfCells() {
+        for (int cell : new int[] {0, 1, 62, 63}) {
+            LaneMill mill = launched(1, 1, 3, 0, "k 2 " + cell, "r 1 2", "k 0 -9", "w 2 0", "r 0 2");
+            mill.poke(cell, 8);
+            mill.step(2);
+            due("r of " + cell, mill.register(0, 0, 0, 1) + " " + mill.register(0, 0, 0, 2), "8 " + cell);
+            mill.run(99);
+            due("w of " + cell, mill.peek(cell), -9);
+        }
+    }
+
+    @Sentence(of = "Kernels", says = "'R', 'W' the same with shared cells of the block")
+    static void readsAndWritesOfSharedCells() {
+        for (int cell : new int[] {0, 1, 14, 15}) {
+            LaneMill mill = launched(1, 1, 3, 16, "k 2 " + cell, "k 0 -9", "W 2 0", "R 1 2", "j 4");
+            mill.poke(cell, 8);
+            mill.step(4);
+            due("W and R of " + cell, mill.shared(0, 0, cell) + " " + mill.register(0, 0, 0, 1), "-9 -9");
+            due("the other one, and the global one", mill.shared(0, 0, 15 - cell) + " " + mill.peek(cell), "0 8");
+        }
+    }
+
+    @Sentence(of = "Kernels", says = "'b' the thread waits at a barrier; 'f' a fence")
+    static void barriersAndFences() {
+        LaneMill mill = launched(1, 5, 1, 0, "b", "f", "j 2");
+        mill.step(1);
+        due("'b' does not let it go on", mill.reason(0, 0) + " " + mill.barriers(), "b 0");
+        mill.step(2);
+        due("'f' does", mill.place(0, 0) + " " + mill.place(0, 1) + " " + mill.barriers(), "2 1 1");
+    }
+
+    @Sentence(of = "Kernels", says = "'e' the thread ends")
+    static void threadsEndByE() {
+        LaneMill first = launched(1, 16, 1, 0, "e", "k 0 1");
+        due("at the first instruction", first.run(99) + " " + first.state(0) + " " + first.lanes(), "4 d 16");
+        LaneMill part = launched(1, 4, 1, 0, "l 0", "z 0 3", "e", "j 3");
+        part.step(3);
+        due("the lanes under the mask", part.mask(0, 0) + " " + part.place(0, 0) + " " + part.state(0), "1 3 r");
+    }
+
     @Sentence(of = "Kernels", says = "'<', '=' the register a becomes 1 if the register b is less than the register c, or "
         + "equal to it, and 0 otherwise")
     static void lessAndEqual() {
@@ -425,6 +479,18 @@ public final class TermsOfKernelsTest extends Checks {
         mill.poke(0, 5);
         mill.run(99);
         due("each block writes 0", mill.state(0) + " " + mill.peek(0), "d 0");
+    }
+
+    @Sentence(of = "Threads, groups, masks", says = "A thread runs, waits at a barrier, or has ended")
+    static void oneThreadRunsOneWaitsOneHasEnded() {
+        LaneMill mill = launched(1, 3, 2, 0, "l 0", "z 0 5", "k 1 1", "= 1 0 1", "z 1 7", "b", "e", "j 7");
+        // The lane 0 waits at 5, the lane 1 too, and the lane 2 runs at 7.
+        mill.step(6);
+        due("two wait", mill.mask(0, 0) + " " + mill.places(0, 0) + mill.reason(0, 0) + mill.barriers(), "4 1-0");
+        LaneMill ends = launched(1, 3, 2, 0, "l 0", "z 0 7", "k 1 1", "= 1 0 1", "z 1 6", "b", "e", "j 7");
+        ends.step(7);
+        due("one waits, one has ended, one runs", ends.mask(0, 0) + " " + ends.place(0, 0) + ends.reason(0, 0)
+            + ends.barriers(), "1 7-0");
     }
 
     @Sentence(of = "Threads, groups, masks", says = "one whose place is no instruction of its kernel ends at once")

@@ -61,6 +61,41 @@ public final class TermsOfLaunchesTest extends Checks {
         due("cells of the last block", results[0].endsWith(" 58 57 56 55 54 53 52 51 50 0 0 0 0 0"), true);
     }
 
+    @Sentence(of = "Terms", says = "wait for delays, for barriers of their block, and for nothing else")
+    static void groupsWaitForNothingElse() {
+        LaneMill mill = launched(1, 4, 2, 0, "t 0", "f", "f", "w 0 0", "k 1 1", "k 1 2", "j 6");
+        mill.launch(0, 0, 6, 16, -1);
+        due("with a full buffer, and a launch behind it", mill.step(7) + " " + mill.place(0, 0), "7 6");
+        LaneMill barrier = launched(2, 1, 1, 0, "n 0", "z 0 3", "b", "k 0 1", "j 4");
+        due("and not for a barrier of another block", barrier.step(5) + " " + places(barrier, 0) + " " + places(barrier, 1),
+            "10 4 4");
+    }
+
+    @Sentence(of = "Terms", says = "writes wait in a buffer of the group before other groups see them")
+    static void otherGroupsSeeWritesThatHaveLeftTheBuffer() {
+        LaneMill mill = launched(2, 1, 3, 0, "n 0", "z 0 4", "r 1 2", "j 2", "f", "k 0 7", "w 2 0", "j 7");
+        // The block 1 reads cell 0 in the cycles 2, 9, 12 and so on; the block 0 writes it in the cycle 4.
+        mill.step(5);
+        due("it waits", mill.buffered(0, 0) + " " + mill.peek(0), "1 0");
+        mill.step(1);
+        due("it is written", mill.buffered(0, 0) + " " + mill.peek(0) + " " + mill.register(1, 0, 0, 1), "0 7 0");
+        mill.step(9);
+        due("the block 1 sees it", mill.register(1, 0, 0, 1), 7);
+    }
+
+    @Sentence(of = "Terms", says = "What a kernel does to the memory can also be found by running its threads one after the other.")
+    static void oneThreadDoesTheSameInSerial() {
+        String[] lines = {"k 0 9", "r 1 0", "k 2 1", "+ 1 1 2", "w 0 1", "a 1 0 2", "W 2 1", "R 0 2", "w 2 0"};
+        LaneMill mill = new LaneMill();
+        kernel(mill, 3, 2, lines);
+        mill.poke(9, 40);
+        String serial = mill.serial(0, 1, 1, false, 9) + " " + mill.serial(0, 1, 1, true, 1);
+        mill.launch(0, 0, 1, 1, -1);
+        mill.run(99);
+        due("cells 9 and 1", mill.peek(9) + " " + mill.peek(1), serial);
+        due("they are", serial, "42 41");
+    }
+
     // ---- Launches
 
     @Sentence(of = "Launches", says = "At most 12 launches are numbered from 0, copies and children included.")
@@ -609,6 +644,36 @@ public final class TermsOfLaunchesTest extends Checks {
         due("r in the same cycle", mill.register(0, 0, 0, 0) + " " + mill.state(1), "6 r");
         mill.step(1);
         due("behind the last cell", mill.state(1), 'd');
+    }
+
+    @Sentence(of = "A cycle", says = "In a cycle, the following happens in this order.")
+    static void launchesRunAndAreAtWorkInTheSameCycle() {
+        LaneMill mill = launched(1, 1, 1, 0, "k 0 1", "j 1");
+        mill.copy(1, 0, 1, 2, -1);
+        mill.poke(0, 3);
+        due("run, given, and carried out", mill.step(1) + " " + states(mill) + " " + mill.given(0) + " " + mill.place(0, 0),
+            "1 rr 1 1");
+        due("run, and moved", mill.peek(1), 3);
+    }
+
+    @Sentence(of = "A cycle", says = "In a cycle, the following happens in this order.")
+    static void writesComeBehindCopiesAndInstructions() {
+        // In the cycle 2 the copy moves cell 30 to cell 20, and 'w' of cell 20 comes into the buffer and out of it.
+        LaneMill mill = launched(1, 1, 2, 0, "k 0 20", "k 1 5", "w 0 1", "j 3");
+        mill.copy(1, 28, 18, 3, -1);
+        mill.poke(30, 9);
+        mill.step(3);
+        due("the write is the last", mill.peek(20) + " " + mill.buffered(0, 0) + " " + mill.state(1), "5 0 d");
+    }
+
+    @Sentence(of = "A cycle", says = "Fifth, writes are written from buffers, as told above.")
+    static void writesAreWrittenAtTheEndOfTheirCycle() {
+        LaneMill mill = launched(1, 2, 1, 0, "f", "f", "w 0 0", "r 0 0", "j 4");
+        mill.poke(0, 6);
+        mill.step(2);
+        due("none", mill.buffered(0, 0) + " " + mill.peek(0), "0 6");
+        mill.step(1);
+        due("one of two", mill.buffered(0, 0) + " " + mill.peek(0), "1 0");
     }
 
     // ---- A cycle: blocks

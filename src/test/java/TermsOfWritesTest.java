@@ -577,6 +577,19 @@ public final class TermsOfWritesTest extends Checks {
         due("one line again behind another one", delayOf("r", 0, 16, 0, 16), 12);
     }
 
+    @Sentence(of = "Delays", says = "of those that its lanes name")
+    static void lanesThatAreNotUnderTheMaskNameNoCells() {
+        // The lane 0 is at another place, with the number of a cell that the lane 1 names as well.
+        LaneMill lines = launched(1, 4, 2, 0, "l 0", "z 0 4", "k 0 0", "r 1 0", "j 4");
+        goTo(lines, 3);
+        due("lanes 1 to 3", lines.mask(0, 0) + " " + delay(lines) + " " + lines.misses(), "14 6 1");
+        for (String letter : new String[] {"R 1 0", "W 0 1"}) {
+            LaneMill banks = launched(1, 4, 2, 16, "l 0", "z 0 7", "k 1 1", "- 0 0 1", "k 1 4", "* 0 0 1", letter, "j 7");
+            goTo(banks, 6);
+            due(letter, banks.mask(0, 0) + " / " + registers(banks, 0, 4) + " / " + delay(banks), "14 / 0 0 4 8 / 3");
+        }
+    }
+
     @Sentence(of = "Delays", says = "for 'r' 2 for each different line of the cells that its lanes name, whatever buffers tell")
     static void linesOfCellsInBuffersCount() {
         LaneMill mill = launched(1, 1, 2, 0, "w 0 0", "r 1 0", "r 1 0", "j 3");
