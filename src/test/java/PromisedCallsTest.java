@@ -1140,6 +1140,14 @@ public final class PromisedCallsTest extends Checks {
         due("the memory", mill.peek(0), before);
     }
 
+    @Sentence(of = "Promise 30", says = "Returns what a global cell would be if a kernel ran now with nothing beside it")
+    static void serialOfBlocksThatFitIntoNoUnit() {
+        LaneMill mill = new LaneMill();
+        kernel(mill, 8, 16, "k 0 1", "a 1 2 0");
+        due("no block fits", mill.fits(0, 16), 0);
+        due("serial has no exception for this", mill.serial(0, 6, 16, false, 0), 96);
+    }
+
     @Sentence(of = "Promise 30", says = "with its threads one after the other")
     static void serialBeginsEachBlockAnew() {
         LaneMill mill = new LaneMill();

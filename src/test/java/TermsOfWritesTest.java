@@ -495,6 +495,18 @@ public final class TermsOfWritesTest extends Checks {
         due("others have ended", end.fault(0) + " " + end.faultAt(0), "b 7");
     }
 
+    @Sentence(of = "Faults", says = "A fault of a barrier is found behind an instruction that was carried out without a fault.")
+    static void writesComeAheadOfAFaultOfABarrier() {
+        // The threads 0 to 3 wait at two places, then the threads 4 and 5 write, and end.
+        LaneMill end = launched(1, 6, 2, 0, "t 0", "k 1 4", "< 1 0 1", "z 1 8", "l 1", "z 1 7", "b", "b", "f", "w 0 0", "e");
+        end.run(99);
+        due("by 'e'", end.fault(0) + " " + end.faultAt(0) + " / " + cells(end, 4, 5), "b 7 / 4 5");
+        // The lane 0 waits at 5, the lane 1 writes, and waits at 4.
+        LaneMill wait = launched(1, 2, 1, 0, "l 0", "z 0 5", "f", "w 0 0", "b", "b");
+        wait.run(99);
+        due("by 'b'", wait.fault(0) + " " + wait.faultAt(0) + " / " + cells(wait, 0, 1), "b 5 / 0 1");
+    }
+
     // ---- Delays
 
     @Sentence(of = "Delays", says = "A group that carries out an instruction in a cycle can do so again as many cycles later as "
@@ -658,6 +670,29 @@ public final class TermsOfWritesTest extends Checks {
         due("the unit has the line 2", delay(mill) + " " + mill.misses(), "2 2");
         mill.step(1);
         due("and not the line 0", delay(mill) + " " + mill.misses(), "6 3");
+    }
+
+    @Sentence(of = "Delays", says = "the lines of an instruction are looked at by rising lanes, each one once")
+    static void aLineMayBeMissingBehindOneOfTheSameInstruction() {
+        // The unit has the line 2; the lane 0 names the line 0, and then the lane 1 the line 2.
+        LaneMill mill = launched(1, 2, 3, 0, "k 0 16", "r 2 0", "l 1", "* 0 0 1", "r 2 0", "r 2 0", "j 6");
+        goTo(mill, 1);
+        due("the line 2", delay(mill) + " " + mill.misses(), "6 1");
+        goTo(mill, 4);
+        due("lanes name", registers(mill, 0, 2), "0 16");
+        due("both are missing as they are looked at", delay(mill) + " " + mill.misses(), "12 3");
+        due("and once more", delay(mill) + " " + mill.misses(), "12 5");
+    }
+
+    @Sentence(of = "Delays", says = "the lines of an instruction are looked at by rising lanes, each one once")
+    static void aLineThatIsNamedAgainDoesNotComeBack() {
+        // The lanes 0 to 2 name the lines 0, 2 and 0: the line 2 is looked at last.
+        LaneMill mill = launched(1, 3, 3, 0, "l 0", "k 1 1", "= 1 0 1", "k 2 16", "* 1 1 2", "r 2 1", "k 1 16", "r 2 1", "j 8");
+        goTo(mill, 5);
+        due("lanes name", registers(mill, 1, 3), "0 16 0");
+        due("two lines", delay(mill) + " " + mill.misses(), "12 2");
+        mill.step(1);
+        due("the unit has the line 2", delay(mill) + " " + mill.misses(), "2 2");
     }
 
     @Sentence(of = "Delays", says = "the lines of an instruction are looked at by rising lanes, each one once")
