@@ -196,6 +196,21 @@ public final class TermsOfWritesTest extends Checks {
         due("run", mill.run(9) + " " + mill.state(0) + " " + mill.peek(1) + " " + mill.barriers(), "6 d 1 1");
     }
 
+    @Sentence(of = "Writes and reads", says = "All writes of a buffer are written, in their order: ahead of 'a' and 'x', ahead of "
+        + "the first lane; at 'b' and 'f'; and when the last thread of the group ends.")
+    static void aBarrierThatIsPassedByAnEndWritesNone() {
+        LaneMill mill = launched(1, 2, 1, 0, "f", "f", "l 0", "z 0 5", "j 7", "b", "j 6", "w 0 0", "e");
+        // The lane 0 waits in the cycle 5; the lane 1 writes the cell 1 in the cycle 6, and lets it pass by its end.
+        mill.poke(1, 9);
+        mill.step(7);
+        due("a write", mill.barriers() + " " + mill.buffered(0, 0) + " " + mill.peek(1), "0 1 9");
+        mill.step(1);
+        due("it waits on", mill.barriers() + " " + mill.mask(0, 0) + " " + mill.buffered(0, 0) + " " + mill.peek(1),
+            "1 1 1 9");
+        mill.step(1);
+        due("until the third cycle", mill.buffered(0, 0) + " " + mill.peek(1), "0 1");
+    }
+
     @Sentence(of = "Writes and reads", says = "At the end of each cycle whose number, ahead of its increase, has the remainder "
         + "2 when it is divided by 3, the first write of each buffer is written")
     static void theFirstWritesAreWrittenInEachThirdCycle() {
